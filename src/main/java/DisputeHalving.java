@@ -678,6 +678,14 @@ public final class DisputeHalving {
             isTold = false;
             answers++;
         }
+
+        void countForTurn() {
+            if (turn() == TURN_TO_CHOOSE) {
+                disputerTicks++;
+            } else {
+                claimantTicks++;
+            }
+        }
     }
 
     /** CLAIMS and DISPUTES with their clocks and deposits, and the PURSES. */
@@ -785,23 +793,15 @@ public final class DisputeHalving {
 
         private void countForDisputes() {
             for (int i = 0; i < disputeCount; i++) {
-                if (disputes[i].condition == OPEN) {
-                    countForTurn(disputes[i]);
+                Dispute dispute = disputes[i];
+                if (dispute.condition == OPEN) {
+                    dispute.countForTurn();
+                    if (dispute.claimantTicks >= TICKS_OF_A_SIDE) {
+                        disputerWins(dispute);
+                    } else if (dispute.disputerTicks >= TICKS_OF_A_SIDE) {
+                        claimantWins(dispute);
+                    }
                 }
-            }
-        }
-
-        private void countForTurn(Dispute dispute) {
-            if (dispute.turn() == TURN_TO_CHOOSE) {
-                dispute.disputerTicks++;
-                if (dispute.disputerTicks >= TICKS_OF_A_SIDE) {
-                    claimantWins(dispute);
-                }
-                return;
-            }
-            dispute.claimantTicks++;
-            if (dispute.claimantTicks >= TICKS_OF_A_SIDE) {
-                disputerWins(dispute);
             }
         }
 

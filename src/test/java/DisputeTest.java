@@ -257,6 +257,7 @@ public final class DisputeTest {
         CHECK.due("ticks left", x.ofClaim(0, 4), 0);
         CHECK.due("purse", x.purse(0), 1000);
         CHECK.due("the other is open", x.ofClaim(1, 2), 0);
+        CHECK.due("sum", x.sum(), 8000);
         CHECK.due("time", x.tick(200), 243);
         CHECK.due("the other is accepted", x.ofClaim(1, 2), 1);
         CHECK.due("paid back once", x.purse(0), 1000);

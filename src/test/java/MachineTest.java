@@ -114,6 +114,7 @@ public final class MachineTest {
         CHECK.due("turn by -1", behindOne(5, 3, 0, -1), 0x80000001);
         CHECK.due("turn by 32", behindOne(5, -7, 0, 32), -7);
         CHECK.due("turn by 0", behindOne(5, -7, 0, 0), -7);
+        CHECK.due("turn of the sign", behindOne(5, min, 0, 1), 1);
         CHECK.due("less", behindOne(6, -1, 0, 0), 1);
         CHECK.due("less, far apart", behindOne(6, min, max, 0), 1);
         CHECK.due("not less", behindOne(6, 3, 3, 0), 0);
