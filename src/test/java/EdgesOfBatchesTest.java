@@ -149,7 +149,7 @@ public final class EdgesOfBatchesTest {
         STAYS.behind("there are 24", () -> draftOf(24), NONE,
                 x -> x.instruction(1, 1, 0, 0), x -> x.instruction(0, 0, 0, 0), x -> x.instruction(9, 15, 15, 0));
         DisputeHalving x = draftOf(24);
-        x.instruction(1, 1, 0, 0);
+        x.instruction(0, 1, 0, 99);
         CHECK.due("batch of 24", x.batch(1, 0, 0, 0, 5), 0);
         CHECK.due("24 are done", x.state(0, 32, 1), 24);
         CHECK.due("23 before", x.state(0, 23, 1), 23);

@@ -4,7 +4,7 @@ import java.util.function.Supplier;
 
 /**
  * What a refused call leaves as it was. Of two objects that were made by the same calls one gets the
- * refused calls besides; then all that can be seen of both, now and later, has to be alike.
+ * refused call besides; then all that can be seen of both, now and later, has to be alike.
  *
  * A look changes what it looks at and an object answers 512 calls only, so each look has objects of its own.
  */
@@ -28,6 +28,7 @@ final class Stays {
         looks.add(Stays::money);
         looks.add(Stays::claims);
         looks.add(Stays::batches);
+        looks.add(Stays::draftLength);
         looks.add(Stays::draft);
         looks.add(Stays::later);
         for (int from = 0; from < 80; from += DISPUTES_A_LOOK) {
@@ -40,17 +41,19 @@ final class Stays {
         }
     }
 
-    /** Every one of these calls answers what is due, and all of them leave the object as it was. */
+    /** Each of these calls answers what is due and leaves the object as it was. */
     void behind(String sentence, Supplier<DisputeHalving> made, long due, Call... calls) {
-        for (int i = 0; i < looks.size(); i++) {
-            DisputeHalving with = made.get();
-            DisputeHalving without = made.get();
-            for (int call = 0; call < calls.length; call++) {
-                check.due(sentence + ": call " + call, calls[call].on(with), due);
+        // one by one: a later call could put right what an earlier one spoilt
+        for (int i = 0; i < calls.length; i++) {
+            for (int look = 0; look < looks.size(); look++) {
+                String name = sentence + ": call " + i;
+                DisputeHalving with = made.get();
+                DisputeHalving without = made.get();
+                check.due(name, calls[i].on(with), due);
+                List<Long> seen = looks.get(look).at(with);
+                List<Long> want = looks.get(look).at(without);
+                check.holds(name + ": look " + look + " is " + want + ", not " + seen, seen.equals(want));
             }
-            List<Long> seen = looks.get(i).at(with);
-            List<Long> want = looks.get(i).at(without);
-            check.holds(sentence + ": look " + i + " is " + seen + ", not " + want, seen.equals(want));
         }
     }
 
@@ -100,10 +103,14 @@ final class Stays {
         return seen;
     }
 
-    /** How many INSTRUCTIONS there are, and, where a BATCH is free, what they do. */
+    /** How many INSTRUCTIONS there are, if there is room for one more. */
+    private static List<Long> draftLength(DisputeHalving x) {
+        return List.of((long) x.instruction(0, 5, 0, 77));
+    }
+
+    /** What THE DRAFT's INSTRUCTIONS do, if there are any and a BATCH is free. */
     private static List<Long> draft(DisputeHalving x) {
         List<Long> seen = new ArrayList<>();
-        seen.add((long) x.instruction(0, 5, 0, 77));
         int batch = x.batch(2, 3, 5, 7, 5);
         seen.add((long) batch);
         for (int s = 0; s <= 32; s++) {
