@@ -537,10 +537,10 @@ public final class DisputeHalving {
         }
 
         OnPaper append(int number, int value) {
-            if (count >= MOST_ON_PAPER) {
+            OnPaper added = count < MOST_ON_PAPER ? shown[count] : null;
+            if (added == null) {
                 return null;
             }
-            OnPaper added = shown[count];
             added.number = number;
             added.value = value;
             count++;
@@ -549,8 +549,9 @@ public final class DisputeHalving {
 
         OnPaper find(int number) {
             for (int i = 0; i < count; i++) {
-                if (shown[i].number == number) {
-                    return shown[i];
+                OnPaper one = shown[i];
+                if (one != null && one.number == number) {
+                    return one;
                 }
             }
             return null;
@@ -583,7 +584,8 @@ public final class DisputeHalving {
 
         private boolean allWaysEndAtRoot() {
             for (int i = 0; i < count; i++) {
-                if (shown[i].rootWith(shown[i].value) != root) {
+                OnPaper one = shown[i];
+                if (one == null || one.rootWith(one.value) != root) {
                     return false;
                 }
             }
@@ -720,6 +722,11 @@ public final class DisputeHalving {
             return number >= 0 && number < disputeCount ? disputes[number] : null;
         }
 
+        private Dispute openDisputeAt(int number) {
+            Dispute dispute = disputeAt(number);
+            return dispute != null && dispute.condition == OPEN ? dispute : null;
+        }
+
         int openClaim(int player, int batch, long digest) {
             if (!isPlayer(player) || purses[player] < CLAIM_DEPOSIT || claimCount >= MOST_CLAIMS) {
                 return NONE;
@@ -765,8 +772,8 @@ public final class DisputeHalving {
 
         private void dropOpenDisputes(Claim fallen) {
             for (int i = 0; i < disputeCount; i++) {
-                Dispute dispute = disputes[i];
-                if (dispute.condition == OPEN && dispute.claim.number == fallen.number) {
+                Dispute dispute = openDisputeAt(i);
+                if (dispute != null && dispute.claim.number == fallen.number) {
                     dispute.condition = DROPPED;
                     pay(dispute.player, DISPUTE_DEPOSIT);
                 }
@@ -793,8 +800,8 @@ public final class DisputeHalving {
 
         private void countForDisputes() {
             for (int i = 0; i < disputeCount; i++) {
-                Dispute dispute = disputes[i];
-                if (dispute.condition == OPEN) {
+                Dispute dispute = openDisputeAt(i);
+                if (dispute != null) {
                     dispute.countForTurn();
                     if (dispute.claimantTicks >= TICKS_OF_A_SIDE) {
                         disputerWins(dispute);
@@ -807,8 +814,8 @@ public final class DisputeHalving {
 
         private void acceptQuietClaims() {
             for (int i = 0; i < claimCount; i++) {
-                Claim claim = claims[i];
-                if (claim.condition == OPEN && claim.ticksLeft(time) <= 0) {
+                Claim claim = claimAt(i);
+                if (claim != null && claim.condition == OPEN && claim.ticksLeft(time) <= 0) {
                     claim.condition = CLAIM_ACCEPTED;
                     openClaims--;
                     pay(claim.player, CLAIM_DEPOSIT);
@@ -822,7 +829,7 @@ public final class DisputeHalving {
                 all += purses[i];
             }
             for (int i = 0; i < disputeCount; i++) {
-                all += disputes[i].condition == OPEN ? DISPUTE_DEPOSIT : 0;
+                all += openDisputeAt(i) != null ? DISPUTE_DEPOSIT : 0;
             }
             return all;
         }

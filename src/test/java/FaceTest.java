@@ -24,12 +24,18 @@ public final class FaceTest {
     private static final String[] FORBIDDEN = {
         "\\bthrow\\b", "\\bthrows\\b", "\\btry\\b", "\\bcatch\\b", "\\bsynchronized\\b", "\\bassert\\b", "->", "::",
         "\\bimport\\b", "\\bpackage\\b", "\\bObject\\b", "\\bSystem\\b", "\\bstatic\\s*\\{", "Exact\\b",
-        "\\bprotected\\b", "\\bhashCode\\b", "\\bequals\\b"};
+        "\\bprotected\\b", "\\bhashCode\\b", "\\bequals\\b",
+        // what an array or a search gives is used only when it is held in a name that can be tested
+        "\\]\\.", "(At|find|append)\\([^()]*\\)\\."};
+    private static final Pattern MAY_BE_NULL =
+            Pattern.compile("\\b[A-Z]\\w* (\\w+) = [^;]*(\\w\\[|At\\(|find\\(|append\\()[^;]*;");
 
     public static void main(String[] args) throws IOException {
         publicMembers();
         classesInside();
-        sourceText();
+        String code = code();
+        forbiddenWords(code);
+        referencesAreTested(code);
         CHECK.end();
     }
 
@@ -79,12 +85,29 @@ public final class FaceTest {
         }
     }
 
-    private static void sourceText() throws IOException {
+    private static String code() throws IOException {
         String source = Files.readString(Path.of("src/main/java/DisputeHalving.java"));
-        String code = source.replaceAll("(?s)/\\*.*?\\*/", "").replaceAll("//[^\n]*", "");
+        return source.replaceAll("(?s)/\\*.*?\\*/", "").replaceAll("//[^\n]*", "");
+    }
+
+    private static void forbiddenWords(String code) {
         for (String forbidden : FORBIDDEN) {
             Matcher matcher = Pattern.compile(forbidden).matcher(code);
             CHECK.holds("no " + forbidden, !matcher.find());
         }
+    }
+
+    /** Rule 7: a reference that an array or a search gave is looked at against null before it is used. */
+    private static void referencesAreTested(String code) {
+        Matcher given = MAY_BE_NULL.matcher(code);
+        int found = 0;
+        while (given.find()) {
+            found++;
+            String name = given.group(1);
+            Matcher next = Pattern.compile("\\b" + name + "( [!=]= null|\\.)").matcher(code);
+            boolean isTested = next.find(given.end()) && next.group(1).endsWith("null");
+            CHECK.holds("tested before it is used: " + given.group(), isTested);
+        }
+        CHECK.holds("references that may be null are found", found > 0);
     }
 }
