@@ -9,6 +9,8 @@ public final class RightPlayTest {
             Random random = new Random(seed);
             rightClaimant(random, seed % 11);
             rightDisputer(random, seed % 11);
+            rightClaimantAgainstFour(random, seed % 9);
+            rightDisputerAmongFour(random, seed % 9);
         }
         CHECK.end();
     }
@@ -62,5 +64,95 @@ public final class RightPlayTest {
         CHECK.due("the claim is fallen", x.ofClaim(0, 2), 2);
         CHECK.due("disputer's purse", x.purse(1), 1100);
         CHECK.due("claimant's purse", x.purse(0), 900);
+    }
+
+    /** A true CLAIM with four disputers at once, who choose as they like or not at all. */
+    private static void rightClaimantAgainstFour(Random random, int r) {
+        DisputeHalving x = anyBatch(random, r);
+        x.claim(0, 0, x.truth(0, 1 << r));
+        disputeByFour(x);
+        for (int round = 0; round <= r; round++) {
+            for (int dispute = 0; dispute < 4; dispute++) {
+                if (random.nextInt(9) != 0) {
+                    x.choose(dispute, random.nextInt(2));
+                }
+                answerRightly(x, dispute);
+            }
+            x.tick(2);
+        }
+        x.tick(30);
+        for (int dispute = 0; dispute < 4; dispute++) {
+            CHECK.due("the claimant won dispute " + dispute, x.ofDispute(dispute, 2), 1);
+            CHECK.due("disputer's purse", x.purse(dispute + 1), 950);
+        }
+        x.tick(40);
+        CHECK.due("the claim is accepted", x.ofClaim(0, 2), 1);
+        CHECK.due("claimant's purse", x.purse(0), 1200);
+    }
+
+    private static void disputeByFour(DisputeHalving x) {
+        for (int dispute = 0; dispute < 4; dispute++) {
+            CHECK.due("dispute", x.dispute(dispute + 1, 0), dispute);
+        }
+    }
+
+    private static void answerRightly(DisputeHalving x, int dispute) {
+        int turn = x.ofDispute(dispute, 5);
+        if (turn == 0) {
+            x.tell(dispute, x.truth(0, middle(x, dispute)));
+        } else if (turn == 2) {
+            x.write(0, x.ofDispute(dispute, 3));
+            x.prove(dispute);
+        }
+    }
+
+    private static int middle(DisputeHalving x, int dispute) {
+        return (x.ofDispute(dispute, 3) + x.ofDispute(dispute, 4)) / 2;
+    }
+
+    /** A false CLAIM whose claimant does anything; of the four disputers at once one is right. */
+    private static void rightDisputerAmongFour(Random random, int r) {
+        DisputeHalving x = anyBatch(random, r);
+        x.claim(0, 0, x.truth(0, 1 << r) - 1 - random.nextInt(9));
+        disputeByFour(x);
+        int right = random.nextInt(4);
+        for (int round = 0; round <= r; round++) {
+            for (int dispute = 0; dispute < 4; dispute++) {
+                answerAnyhow(x, dispute, random);
+                if (x.ofDispute(dispute, 5) == 1) {
+                    boolean isSame = x.digest(dispute, 2) == x.truth(0, middle(x, dispute));
+                    x.choose(dispute, (dispute == right) == isSame ? 0 : 1);
+                }
+            }
+            x.tick(1);
+        }
+        x.tick(30);
+        int end = x.ofDispute(right, 2);
+        CHECK.holds("the right disputer won or was dropped, not " + end, end == 2 || end == 3);
+        CHECK.due("the claim is fallen", x.ofClaim(0, 2), 2);
+        CHECK.due("claimant's purse", x.purse(0), 900 + 50 * lost(x));
+        CHECK.due("the right disputer's purse", x.purse(right + 1), end == 2 ? 1100 : 1000);
+    }
+
+    private static void answerAnyhow(DisputeHalving x, int dispute, Random random) {
+        int turn = x.ofDispute(dispute, 5);
+        if (turn == 0 && random.nextInt(12) != 0) {
+            x.tell(dispute, x.truth(0, middle(x, dispute)) + random.nextInt(2));
+        } else if (turn == 2 && random.nextInt(4) != 0) {
+            // the right PAPER, another STEP's, or one with a CELL that nobody asked for
+            x.write(0, x.ofDispute(dispute, 3) ^ random.nextInt(2));
+            if (random.nextInt(3) == 0) {
+                x.cell(random.nextInt(16), 1, 2, 3, 4, 5);
+            }
+            x.prove(dispute);
+        }
+    }
+
+    private static int lost(DisputeHalving x) {
+        int lost = 0;
+        for (int dispute = 0; dispute < 4; dispute++) {
+            lost += x.ofDispute(dispute, 2) == 1 ? 1 : 0;
+        }
+        return lost;
     }
 }
